@@ -55,7 +55,7 @@ public final class DotToner {
         if (!isPrinter(printer) || !isDots(dots)) {
             return INVALID_ARGUMENT;
         }
-        history.record(now);
+        history.keep(now);
         return now.printPage(printer, dots);
     }
 
@@ -63,7 +63,7 @@ public final class DotToner {
         if (!isCup(cup)) {
             return INVALID_ARGUMENT;
         }
-        history.record(now);
+        history.keep(now);
         return now.shakeCup(cup);
     }
 
@@ -71,7 +71,7 @@ public final class DotToner {
         if (!isCup(cup) || !isPrinter(printer)) {
             return INVALID_ARGUMENT;
         }
-        history.record(now);
+        history.keep(now);
         return now.moveCup(cup, printer);
     }
 
@@ -83,7 +83,7 @@ public final class DotToner {
         if (!isCup(cup)) {
             return NOT_POSSIBLE;
         }
-        history.record(now);
+        history.keep(now);
         now.empty(printer);
         return cup;
     }
@@ -98,7 +98,7 @@ public final class DotToner {
         if (now.toner(cup) >= FULL_CUP) {
             return LIMIT_REACHED;
         }
-        history.record(now);
+        history.keep(now);
         return now.fillCup(cup, toner);
     }
 
@@ -109,7 +109,7 @@ public final class DotToner {
         if (value < LOWEST[what] || value > HIGHEST[what]) {
             return INVALID_ARGUMENT;
         }
-        history.record(now);
+        history.keep(now);
         int before = now.settings[what];
         now.settings[what] = value;
         return before;
@@ -142,7 +142,7 @@ public final class DotToner {
         if (pad.findFault() != NOT_FOUND) {
             return NOT_POSSIBLE;
         }
-        history.record(now);
+        history.keep(now);
         stop.forget();
         int printed = 0;
         for (int deed = 0; deed < pad.deeds && !stop.known(); deed++) {
@@ -345,7 +345,7 @@ public final class DotToner {
         if (!snapshotTaken) {
             return NOT_POSSIBLE;
         }
-        history.record(now);
+        history.keep(now);
         now.becomeLike(snapshot);
         return now.allToner();
     }
@@ -669,7 +669,7 @@ public final class DotToner {
         private int oldest = 0;
         int size = 0;
 
-        void record(Machine state) {
+        void keep(Machine state) {
             states[(oldest + size) % MOST].becomeLike(state);
             if (size < MOST) {
                 size++;
