@@ -4,7 +4,15 @@ public final class ComparisonTest {
     private static final int[] ODD = {Integer.MIN_VALUE, -1000, -5, -1, 0, 1, 2, 3, 4, 5, 6, 7, 8, 13, 14, 32, 33,
         49, 50, 51, 59, 60, 100, 126, 127, 500, 501, 998, 999, 1000, 5999, 6000, 6001, 65536, Integer.MAX_VALUE};
 
+    // the document promises nothing about later calls
+    private static final int MOST_CALLS = 512;
+    private static final int LOOKS_AT_ALL = 65;
+    // clear, 60 times append, run
+    private static final int CALLS_OF_A_STEP = 62;
+
     private static long seed = 4711;
+
+    private int calls = 0;
 
     private final DotToner toner = new DotToner();
     private final PaperToner paper = new PaperToner();
@@ -15,24 +23,25 @@ public final class ComparisonTest {
     }
 
     public static void main(String[] args) {
-        for (int run = 0; run < 400; run++) {
+        for (int run = 0; run < 1600; run++) {
             new ComparisonTest("run " + run).go(run % 4);
         }
         Check.finish();
     }
 
     private void go(int manner) {
-        for (int call = 0; call < 500; call++) {
+        while (calls <= MOST_CALLS - LOOKS_AT_ALL - CALLS_OF_A_STEP) {
             if (manner == 3 && any(6) == 0) {
                 wildCall();
-            } else if (any(3) == 0) {
+            } else if (any(2) == 0) {
                 look();
             } else {
                 act(manner);
             }
-            if (call % 25 == 24) {
-                lookAtAll();
-            }
+        }
+        lookAtAll();
+        if (calls > MOST_CALLS) {
+            Check.tell(name + " has " + calls + " calls");
         }
     }
 
@@ -95,8 +104,7 @@ public final class ComparisonTest {
             }
         }
         if (any(8) == 0) {
-            text.setCharAt(any(text.length()), "p0;x9"
-                    .charAt(any(5)));
+            text.setCharAt(any(text.length()), "p0;x9".charAt(any(5)));
         }
         due("clear", toner.clear(), paper.clear());
         for (int i = 0; i < text.length(); i++) {
@@ -111,29 +119,59 @@ public final class ComparisonTest {
         int pages = any(any(2) == 0 ? 6 : 51);
         boolean shaking = any(2) == 0;
         int way = any(2);
-        switch (any(5)) {
+        switch (any(10)) {
             case 0 -> due("needs", toner.needs(cup, dots, way), paper.needs(cup, dots, way));
             case 1 -> due("lasts", toner.lasts(cup, dots, shaking), paper.lasts(cup, dots, shaking));
             case 2 -> due("atHand", toner.atHand(cup, dots, pages, way), paper.atHand(cup, dots, pages, way));
             case 3 -> due("bestFor", toner.bestFor(dots, pages), paper.bestFor(dots, pages));
-            default -> due("darkest", toner.darkest(cup, dots, pages), paper.darkest(cup, dots, pages));
+            case 4 -> due("darkest", toner.darkest(cup, dots, pages), paper.darkest(cup, dots, pages));
+            case 5 -> lookAtCup(cup, any(8));
+            case 6 -> lookAtPrinter(any(2), any(6));
+            case 7 -> lookAtCount(any(14));
+            case 8 -> lookAtWhy(any(4));
+            default -> lookAtDarkness();
         }
     }
 
     private void lookAtAll() {
-        for (int what = -1; what <= 14; what++) {
-            due("count " + what, toner.count(what), paper.count(what));
-            due("why " + what, toner.why(what), paper.why(what));
-            for (int cup = -1; cup <= 4; cup++) {
-                due("cup " + cup + " " + what, toner.cup(cup, what), paper.cup(cup, what));
-            }
-            for (int printer = -1; printer <= 2; printer++) {
-                due("printer " + printer + " " + what, toner.printer(printer, what), paper.printer(printer, what));
+        for (int what = 0; what < 8; what++) {
+            for (int cup = 0; cup < 4; cup++) {
+                lookAtCup(cup, what);
             }
         }
-        for (int printer = -1; printer <= 2; printer++) {
-            due("whyNot", toner.whyNot(printer), paper.whyNot(printer));
+        for (int what = 0; what < 6; what++) {
+            lookAtPrinter(0, what);
+            lookAtPrinter(1, what);
         }
+        for (int what = 0; what < 14; what++) {
+            lookAtCount(what);
+        }
+        for (int what = 0; what < 4; what++) {
+            lookAtWhy(what);
+        }
+        due("whyNot 0", toner.whyNot(0), paper.whyNot(0));
+        due("whyNot 1", toner.whyNot(1), paper.whyNot(1));
+        lookAtDarkness();
+    }
+
+    private void lookAtCup(int cup, int what) {
+        due("cup " + cup + " " + what, toner.cup(cup, what), paper.cup(cup, what));
+    }
+
+    private void lookAtPrinter(int printer, int what) {
+        due("printer " + printer + " " + what, toner.printer(printer, what), paper.printer(printer, what));
+    }
+
+    private void lookAtCount(int what) {
+        due("count " + what, toner.count(what), paper.count(what));
+    }
+
+    private void lookAtWhy(int what) {
+        due("why " + what, toner.why(what), paper.why(what));
+    }
+
+    private void lookAtDarkness() {
+        calls++;
         Check.dueDouble(name + ": darkness", toner.darkness(), paper.darkness());
     }
 
@@ -142,7 +180,7 @@ public final class ComparisonTest {
         int b = odd();
         int c = odd();
         int d = odd();
-        switch (any(14)) {
+        switch (any(18)) {
             case 0 -> due("print", toner.print(a, b), paper.print(a, b));
             case 1 -> due("shake", toner.shake(a), paper.shake(a));
             case 2 -> due("move", toner.move(a, b), paper.move(a, b));
@@ -156,7 +194,11 @@ public final class ComparisonTest {
             case 10 -> due("lasts", toner.lasts(a, b, true), paper.lasts(a, b, true));
             case 11 -> due("atHand", toner.atHand(a, b, c, d), paper.atHand(a, b, c, d));
             case 12 -> due("bestFor", toner.bestFor(a, b), paper.bestFor(a, b));
-            default -> due("darkest", toner.darkest(a, b, c), paper.darkest(a, b, c));
+            case 13 -> due("darkest", toner.darkest(a, b, c), paper.darkest(a, b, c));
+            case 14 -> lookAtCup(a, b);
+            case 15 -> lookAtPrinter(a, b);
+            case 16 -> lookAtCount(a);
+            default -> lookAtWhy(a);
         }
     }
 
@@ -170,6 +212,7 @@ public final class ComparisonTest {
     }
 
     private void due(String call, int got, int want) {
+        calls++;
         Check.due(name + ": " + call, got, want);
     }
 }
