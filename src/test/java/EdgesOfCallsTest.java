@@ -213,6 +213,28 @@ public final class EdgesOfCallsTest {
         }
     }
 
+    @Says("`value`: a value in its range")
+    static void aValueInTheRangeOfAnotherSetting() {
+        DotToner x = new DotToner();
+        due("DARK 10", x.set(DotToner.DARK, 10), Check.INVALID);
+        due("SETTLE 1", x.set(DotToner.SETTLE, 1), Check.INVALID);
+        due("SETTLE 500", x.set(DotToner.SETTLE, 500), Check.INVALID);
+        due("STRICT 2", x.set(DotToner.STRICT, 2), Check.INVALID);
+        due("SCALE 0", x.set(DotToner.SCALE, 0), Check.INVALID);
+        due("states", x.count(13), 0);
+    }
+
+    @Says("Returns the value before; INVALID_ARGUMENT.")
+    static void theAnswersOfSet() {
+        DotToner x = new DotToner();
+        due("first value", x.set(DotToner.SCALE, 500), 50);
+        due("most", x.set(DotToner.SCALE, 1), 500);
+        due("least", x.set(DotToner.SCALE, 1), 1);
+        x.set(DotToner.STRICT, 1);
+        x.undo();
+        due("undone", x.set(DotToner.STRICT, 0), 0);
+    }
+
     // ---- promises 13 to 17: looks
 
     @Says("`int cup(int cup, int what)`: Returns a property of a cup.")
@@ -368,6 +390,20 @@ public final class EdgesOfCallsTest {
         x.print(0, 999);
         x.print(1, 1);
         due("light, refused, dark", x.count(4), 2);
+        x.print(1, 999);
+        due("and a light one of the other printer", x.count(4), 3);
+    }
+
+    @Says("8 to 11: the settings 0 to 3;")
+    static void theSettingsAreCounted() {
+        DotToner x = new DotToner();
+        int[] values = {5, 49, 1, 499};
+        for (int what = 0; what < 4; what++) {
+            x.set(what, values[what]);
+        }
+        for (int what = 0; what < 4; what++) {
+            due("setting " + what, x.count(8 + what), values[what]);
+        }
     }
 
     @Says("5: cups in printers;")

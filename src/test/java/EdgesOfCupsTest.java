@@ -109,6 +109,10 @@ public final class EdgesOfCupsTest {
         DotToner x = with(DotToner.DARK, 1);
         due("7 dots: the same", x.needs(2, 7, 1), 7);
         due("8 dots: not 9", x.needs(2, 8, 1), 8);
+        x.set(DotToner.DARK, 5);
+        due("most", x.needs(2, 999, 1), 4995);
+        due("most of a thrifty one", x.needs(1, 999, 1), 3746);
+        x.set(DotToner.DARK, 1);
         x.takeOut(0);
         x.refill(0, 1);
         due("refilled now", x.needs(0, 8, 1), 8);
@@ -346,6 +350,17 @@ public final class EdgesOfCupsTest {
         }
         due("refused", x.printer(0, 3), 1);
         due("refused by the other one", x.printer(1, 3), 0);
+    }
+
+    @Says("a page that is refused for a reason is one, too (it is counted).")
+    static void aPageRefusedForTheChipUsesAndSettlesNothing() {
+        DotToner x = States.onChip(0);
+        x.set(DotToner.STRICT, 1);
+        due("print", x.print(0, 1), 2);
+        due("at hand", x.cup(0, 1), 125);
+        due("settled", x.cup(0, 2), 125);
+        due("refused", x.printer(0, 3), 1);
+        due("pages", x.count(4), 5);
     }
 
     // ---- shaking

@@ -193,6 +193,18 @@ public final class EdgesOfTextsTest {
         faultDue("p0:1x6", NONE);
     }
 
+    @Says("numbers have no needless 0 ahead.")
+    static void signsBesideTheDigitsAreNoDigits() {
+        faultDue("p0:/", 3);
+        faultDue("p0::", 3);
+        faultDue("p0:1/", 4);
+        faultDue("p0:1:", 4);
+        faultDue("p0:1x/", 5);
+        faultDue("p0:1x:", 5);
+        faultDue("p0:1x1/", 6);
+        faultDue("p0:1x1:", 6);
+    }
+
     @Says("and perhaps \"x\" and a number 2 to 50 (so many such pages);")
     static void xOnlyOnceAndOnlyBehindAPage() {
         faultDue("p0:1x", 5);
@@ -373,6 +385,28 @@ public final class EdgesOfTextsTest {
         x.set(DotToner.DARK, 5);
         due("two light ones", Check.runText(x, "p0:999;p1:999"), 2);
         due("dark", x.printer(0, 1) + x.printer(1, 1), 0);
+    }
+
+    @Says("up to the first page that is refused (which is counted)")
+    static void aPageWithADarknessOf0IsNotRefused() {
+        DotToner x = States.atHand(1);
+        due("run", Check.runText(x, "p0:101;s0;p0:1"), 2);
+        due("darkness of the light one", x.printer(0, 2), 1);
+        whyDue(x, NONE, NONE, NONE, NONE);
+    }
+
+    @Says("Runs the job of the pad, deed by deed and page by page, up to the first page that is refused (which is counted), and empties the pad.")
+    static void nothingIsLeftOfTheJobBefore() {
+        DotToner x = new DotToner();
+        due("pages", Check.runText(x, "p0:1x3;p1:2x4"), 7);
+        due("moved", Check.runText(x, "m2>0;s1"), 0);
+        due("moved", x.printer(0, 0), 2);
+        // 1997, 199 settle; 1795, 179 settle; 1613, 161 settle; 1449, 144 settle: 1305 and 2683
+        due("shaken", x.cup(1, 1), 1305 + 1341);
+        due("one page", Check.runText(x, "p0:1"), 1);
+        due("shaken", Check.runText(x, "s3"), 0);
+        due("shaken", x.cup(3, 1), 3000);
+        due("pages", x.count(4), 8);
     }
 
     @Says("Returns how many pages are printed; NOT_POSSIBLE if the pad has a fault.")

@@ -76,6 +76,8 @@ public final class EdgesOfToldTest {
         due("250 and 1", x.cup(0, 6), 125);
         x.set(DotToner.SCALE, 500);
         due("0 and 1", x.cup(0, 6), 0);
+        x.set(DotToner.SCALE, 249);
+        due("249 and 1, rounded once", x.cup(0, 6), 125);
         DotToner y = States.onChip(2);
         y.set(DotToner.SCALE, 249);
         due("249 and 2", y.cup(0, 6), 125);
@@ -512,5 +514,7 @@ public final class EdgesOfToldTest {
         x.print(1, 1);
         x.print(1, 1);
         Check.dueDouble("2 of 3", x.darkness(), 2.0 / 3.0);
+        x.print(1, 999);
+        Check.dueDouble("2 of 4, a light one of each", x.darkness(), 0.5);
     }
 }
