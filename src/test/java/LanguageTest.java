@@ -1,11 +1,19 @@
 import java.io.IOException;
+import java.lang.reflect.Field;
+import java.lang.reflect.Method;
+import java.lang.reflect.Modifier;
 import java.nio.charset.StandardCharsets;
 import java.nio.file.Files;
 import java.nio.file.Path;
+import java.util.Set;
+import java.util.TreeSet;
 import java.util.regex.Matcher;
 import java.util.regex.Pattern;
 
-/** What of ../shared/LANGUAGE.md can be seen in the text of the program; run from the project's folder. */
+/**
+ * What of ../shared/LANGUAGE.md can be seen in the text of the program and in its
+ * classes; run from the project's folder.
+ */
 public final class LanguageTest {
 
     private static final String[] FORBIDDEN = {
@@ -23,6 +31,7 @@ public final class LanguageTest {
             Check.dueText("a match of " + rule, found.find() ? found.group() : "none", "none");
         }
         methodsAreShort(source);
+        classes();
         Check.finish();
     }
 
@@ -43,5 +52,47 @@ public final class LanguageTest {
             }
         }
         Check.due("a method without an end at line", start, -1);
+    }
+
+    private static void classes() {
+        Class<?>[] inside = DotToner.class.getDeclaredClasses();
+        if (inside.length + 1 > 12) {
+            Check.tell("more than 12 classes");
+        }
+        Set<String> face = new TreeSet<>();
+        for (Method method : DotToner.class.getDeclaredMethods()) {
+            if (Modifier.isPublic(method.getModifiers())) {
+                face.add(method.getName());
+            }
+        }
+        oneClass(DotToner.class);
+        for (Class<?> one : inside) {
+            oneClass(one);
+            if (!Modifier.isStatic(one.getModifiers()) || Modifier.isPublic(one.getModifiers())) {
+                Check.tell(one.getName() + " is not static, or public");
+            }
+            for (Method method : one.getDeclaredMethods()) {
+                Check.due(one.getName() + " has a method of the face, " + method.getName(),
+                        face.contains(method.getName()) ? 1 : 0, 0);
+            }
+        }
+    }
+
+    private static void oneClass(Class<?> one) {
+        int fields = 0;
+        for (Field field : one.getDeclaredFields()) {
+            boolean isStatic = Modifier.isStatic(field.getModifiers());
+            fields += isStatic ? 0 : 1;
+            Check.due(one.getName() + " has a static field that is not final, " + field.getName(),
+                    isStatic && !Modifier.isFinal(field.getModifiers()) ? 1 : 0, 0);
+        }
+        if (fields > 20) {
+            Check.tell(one.getName() + " has more than 20 fields");
+        }
+        for (Method method : one.getDeclaredMethods()) {
+            if (method.getParameterCount() > 7) {
+                Check.tell(method.getName() + " has more than 7 parameters");
+            }
+        }
     }
 }
